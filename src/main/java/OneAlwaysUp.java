@@ -1089,9 +1089,11 @@ public final class OneAlwaysUp {
         private final int[] value = new int[PLACES];
         private final int[] bridge = new int[PLACES];
         private final int[] end = new int[PLACES];
-        /** Of spans of one bridge from one minute on, by their ends: what they cost, which ships wait then. */
-        private final int[] spanCost = new int[ENDS];
-        private final int[] spanWait = new int[ENDS];
+        /** Of spans from one minute on, by bridge and end: what comers cost, which of them still wait then. */
+        private final int[] spanCost = new int[BRIDGES * ENDS];
+        private final int[] spanWait = new int[BRIDGES * ENDS];
+        /** The ships of each bridge. */
+        private final int[] shipsAt = new int[BRIDGES];
         final int[] leastRow = new int[MINUTES];
         int leastCost = UNKNOWN;
         private int fewestKnown = UNKNOWN;
@@ -1125,12 +1127,16 @@ public final class OneAlwaysUp {
 
         private void priceByRule() {
             for (int i = 0; i < ALL; i++) {
-                for (int m = day.froms[i]; m <= MINUTES && day.isThere(i); m++) {
+                for (int m = Math.max(day.froms[i], 0); m <= MINUTES && day.isThere(i); m++) {
                     oneCost[i * ENDS + m] = costs.ofOne(i, m);
                 }
             }
-            for (int c = 0; c < changeCost.length; c++) {
-                changeCost[c] = costs.ofChange(c / 9, c / 3 % 3, c % 3);
+            for (int m = 1; m < MINUTES; m++) {
+                for (int was = 0; was < BRIDGES; was++) {
+                    for (int is = 0; is < BRIDGES; is++) {
+                        changeCost[(m * BRIDGES + was) * BRIDGES + is] = was == is ? 0 : costs.ofChange(m, was, is);
+                    }
+                }
             }
         }
 
@@ -1144,17 +1150,21 @@ public final class OneAlwaysUp {
         }
 
         private int solve() {
+            for (int b = 0; b < BRIDGES; b++) {
+                shipsAt[b] = ships(0, MINUTES, b, true);
+            }
+            Arrays.fill(spanCost, 0);
+            Arrays.fill(spanWait, 0);
             closeDay();
-            for (int s = MINUTES - 1; s >= 0; s--) {
-                clearMinute(s);
-                for (int b = 0; b < BRIDGES; b++) {
-                    weighSpans(s, b);
-                    for (int was = 0; was < BRIDGES; was++) {
-                        beginSpans(s, b, was);
-                    }
+            for (int s = MINUTES - 1; s > 0; s--) {
+                addComers(s);
+                for (int was = 0; was < BRIDGES; was++) {
+                    settleMinute(s, was);
                 }
             }
-            return value[place(0, 0, 0)];
+            addComers(0);
+            settle(0, NONE, 0);
+            return value[0];
         }
 
         /** Ships that still wait when the day ends are through in no minute. */
@@ -1167,37 +1177,48 @@ public final class OneAlwaysUp {
             }
         }
 
-        private void clearMinute(int s) {
-            for (int was = 0; was < BRIDGES; was++) {
-                for (int w = 0; w < SETS; w++) {
-                    value[place(s, was, w)] = Integer.MAX_VALUE;
-                }
-            }
-        }
-
-        /** Ships that go on waiting when a span ends cost nothing in it. */
-        private void weighSpans(int s, int b) {
-            for (int e = s + 1; e <= MINUTES; e++) {
-                spanWait[e] = shipsLeft(s, b, e);
-                spanCost[e] = 0;
-                for (int i = 0; i < ALL; i++) {
-                    if (comesIn(i, s, e)) {
-                        int minute = day.passes(i, b) ? day.froms[i] : e;
-                        spanCost[e] += (spanWait[e] & 1 << i) != 0 ? 0 : oneCost[i * ENDS + minute];
+        /** Spans that began after s are made to begin at s. */
+        private void addComers(int s) {
+            for (int i = 0; i < ALL; i++) {
+                if (day.isThere(i) && day.froms[i] == s) {
+                    for (int b = 0; b < BRIDGES; b++) {
+                        addComer(i, s, b);
                     }
                 }
             }
         }
 
-        /** Ahead of minute 0 nothing was up: its one place is that of bridge 0. */
-        private void beginSpans(int s, int b, int was) {
-            if (s == 0 ? was != 0 : was == b) {
-                return;
+        private void addComer(int i, int s, int b) {
+            boolean passes = day.passes(i, b);
+            for (int e = s + 1; e < ENDS; e++) {
+                int span = b * ENDS + e;
+                if (passes) {
+                    spanCost[span] += oneCost[i * ENDS + s];
+                } else if (i >= EACH) {
+                    spanCost[span] += oneCost[i * ENDS + e];
+                } else {
+                    spanWait[span] |= 1 << i;
+                }
             }
-            int could = shipsLeft(0, was, s);
+        }
+
+        private void settleMinute(int s, int was) {
+            int could = ships(0, s, was, false);
             for (int w = 0; w < SETS; w++) {
                 if ((w & ~could) == 0) {
-                    trySpans(s, b, was, w);
+                    settle(s, was, w);
+                }
+            }
+        }
+
+        /** Ahead of minute 0 nothing was up: was is NONE there, and place 0 its one place. */
+        private void settle(int s, int was, int w) {
+            int here = place(s, was, w);
+            value[here] = Integer.MAX_VALUE;
+            for (int b = 0; b < BRIDGES; b++) {
+                if (b != was) {
+                    int change = isBridge(was) ? changeCost[(s * BRIDGES + was) * BRIDGES + b] : 0;
+                    trySpans(here, s, b, w & ~shipsAt[b], change + costOfShips(w & shipsAt[b], s));
                 }
             }
         }
@@ -1208,15 +1229,11 @@ public final class OneAlwaysUp {
          * which the sooner one has its next bridge, so it is first unless
          * that bridge is below b.
          */
-        private void trySpans(int s, int b, int was, int w) {
-            int here = place(s, was, w);
-            int mine = shipsAt(b);
-            int change = s == 0 ? 0 : changeCost[(s * BRIDGES + was) * BRIDGES + b];
-            int begun = change + costOfShips(w & mine, s);
+        private void trySpans(int here, int s, int b, int waiting, int begun) {
             int next = NONE;
-            for (int e = Math.min(s + day.hold, MINUTES); e <= MINUTES; e++) {
-                int there = place(e, b, w & ~mine | spanWait[e]);
-                int cost = begun + spanCost[e] + value[there];
+            for (int e = Math.min(s + day.hold, MINUTES); e < ENDS; e++) {
+                int there = (e * BRIDGES + b) * SETS + (waiting | spanWait[b * ENDS + e]);
+                int cost = begun + spanCost[b * ENDS + e] + value[there];
                 if (cost < value[here] || cost == value[here] && next > b) {
                     value[here] = cost;
                     bridge[here] = b;
@@ -1227,48 +1244,33 @@ public final class OneAlwaysUp {
         }
 
         private void layRow() {
-            int was = 0;
-            int w = 0;
+            int here = 0;
             int s = 0;
+            int w = 0;
             for (int span = 0; span < MINUTES && s < MINUTES; span++) {
-                int here = place(s, was, w);
                 int b = bridge[here];
                 int e = Math.min(end[here], MINUTES);
                 for (int m = s; m < e; m++) {
                     leastRow[m] = b;
                 }
-                w = w & ~shipsAt(b) | shipsLeft(s, b, e);
-                was = b;
+                w = w & ~ships(0, MINUTES, b, true) | ships(s, e, b, false);
                 s = Math.max(s, e);
+                here = place(s, b, w);
             }
         }
 
         private static int place(int minute, int was, int waiting) {
-            if (minute < 0 || minute > MINUTES || was < 0 || was >= BRIDGES) {
+            if (minute < 0 || minute > MINUTES || !isBridge(was)) {
                 return 0;
             }
             return (minute * BRIDGES + was) * SETS + (waiting & SETS - 1);
         }
 
-        /** Ships that come while b is up from s to e, and wait for another bridge. */
-        private int shipsLeft(int s, int b, int e) {
+        /** Ships that come from s on, ahead of e, at a bridge, or at others. */
+        private int ships(int s, int e, int b, boolean there) {
             int bits = 0;
             for (int i = 0; i < EACH; i++) {
-                if (comesIn(i, s, e) && day.bridges[i] != b) {
-                    bits |= 1 << i;
-                }
-            }
-            return bits;
-        }
-
-        private boolean comesIn(int i, int s, int e) {
-            return day.isThere(i) && day.froms[i] >= s && day.froms[i] < e;
-        }
-
-        private int shipsAt(int b) {
-            int bits = 0;
-            for (int i = 0; i < EACH; i++) {
-                if (day.isThere(i) && day.bridges[i] == b) {
+                if (day.isThere(i) && day.froms[i] >= s && day.froms[i] < e && (day.bridges[i] == b) == there) {
                     bits |= 1 << i;
                 }
             }
