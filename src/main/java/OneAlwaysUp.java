@@ -336,6 +336,9 @@ public final class OneAlwaysUp {
             }
         }
         int common = greatestCommon(hits, n);
+        if (common < 1) {
+            return NO;
+        }
         return part == 0 ? hits / common : n / common;
     }
 
@@ -578,12 +581,11 @@ public final class OneAlwaysUp {
     }
 
     private static int greatestCommon(int a, int b) {
-        for (int d = b; d > 1; d--) {
-            if (a % d == 0 && b % d == 0) {
-                return d;
-            }
+        int d = Math.max(b, 1);
+        while (d > 1 && (a % d != 0 || b % d != 0)) {
+            d--;
         }
-        return 1;
+        return d;
     }
 
     /** All that an image keeps. Ships stand in rows at 0 .. 3, carts at 4 .. 7. */

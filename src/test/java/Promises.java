@@ -311,6 +311,13 @@ public final class Promises {
         fault("ship 1 2 ; cart 2 ; change 3 ;", 7);
         fault("ship waits ; cart 2 ; change 3 ;", 5);
         fault("ship waitedprice ; cart 2 ; change 3 ;", 5);
+        fault("ship waitedz ; cart 2 ; change 3 ;", 5);
+        fault("ship awaited ; cart 2 ; change 3 ;", 5);
+        fault("ship hot 1 ; cart 2 ; change 3 ;", 5);
+        fault("chip 1 ; cart 2 ; change 3 ;", 0);
+        fault("ship `1 ; cart 2 ; change 3 ;", 5);
+        fault("ship {1 ; cart 2 ; change 3 ;", 5);
+        fault("ship 1: ; cart 2 ; change 3 ;", 6);
         fault("ships 1 ; cart 2 ; change 3 ;", 0);
         fault("ship Waited ; cart 2 ; change 3 ;", 5);
         fault("ship 1 ;\tcart 2 ; change 3 ;", 8);
@@ -460,6 +467,11 @@ public final class Promises {
         x.up(21, 2);
         due("plan(2): one alone", x.plan(2), 0);
         due("plan(1)", x.plan(1), 5);
+        lay(x, "010000000000000000000000");
+        due("plan(1): minutes 1 and 2", x.plan(1), 2);
+        due("plan(2)", x.plan(2), 0);
+        x.set(0, 0, 2, 0);
+        due("plan(0)", x.plan(0), 24 + 2);
         due("plan(-1)", x.plan(-1), -2);
         due("plan(4)", x.plan(4), -2);
     }
@@ -639,6 +651,19 @@ public final class Promises {
         dueRow("TIDE goes where most is", runRow(x, 1), "121111111122222222220000");
         dueRow("LAZY in minutes by three alone", runRow(x, 2), "111222222222222222222222");
         dueRow("MARKET goes where least is", runRow(x, 3), "001000000000000000000000");
+        x = new OneAlwaysUp();
+        x.master(1, 9);
+        x.master(4, 8);
+        x.master(4, 9);
+        x.master(4, 4);
+        x.come(0, 203, 5);
+        x.come(0, 103, 5);
+        x.come(1, 103, 1);
+        x.come(1, 6, 2);
+        dueRow("TIDE of like ones", runRow(x, 0), "111122222200000000001111");
+        dueRow("BEST: 2, as a cart waits at 1", runRow(x, 1), "000210100000000000000000");
+        dueRow("BEST that is odd", runRow(x, 2), "000000100000000000000000");
+        dueRow("BEST by another even number", runRow(x, 3), "000210100000000000000000");
     }
 
     private static void follow() {
@@ -747,6 +772,8 @@ public final class Promises {
         x.set(0, 2, 1, 0);
         due("late(23)", x.late(23), 4);
         due("late(24)", x.late(24), 0);
+        x.up(0, 2);
+        due("the first ship", x.late(0), 1 + 2 + 64);
         due("late(-1)", x.late(-1), -2);
         due("late(25)", x.late(25), -2);
     }
@@ -780,6 +807,12 @@ public final class Promises {
         x.set(0, 0, 1, 5);
         x.set(0, 0, 2, 9);
         due("whether it is lawful does not matter", x.blame(0), 5);
+        x = new OneAlwaysUp();
+        x.come(0, 0, 9);
+        lay(x, "222222222222222222222222");
+        due("minute 0", x.blame(0), 0);
+        due("bridge 0", x.blame(1), 0);
+        due("one change", x.blame(2), 1);
         x = ruled("ship minute = 24 ; cart minute = 24 ; change 0 ;");
         x.come(1, 7, 0);
         x.come(1, 8, 0);
@@ -812,6 +845,8 @@ public final class Promises {
         due("0 for two alone", x.judge(0), 2);
         tell(x, 0, 2, 1, 1, 1, 0, 0, 0, 2);
         due("the last one may be short", x.judge(0), -1);
+        tell(x, 0, 2, 1, 0, 0, 0);
+        due("one alone in minute 0", x.judge(0), 1);
         tell(x, 0, 2, 3);
         due("no bridge in minute 0", x.judge(0), 0);
         tell(x, 0, 0, 1, 1, -1);
