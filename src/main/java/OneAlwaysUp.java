@@ -1079,7 +1079,9 @@ public final class OneAlwaysUp {
      * wait, and spans are reckoned from the day's end back to its start.
      */
     private static final class Search {
-        private static final int SETS = 1 << EACH, FAR = 1000000, UNKNOWN = -2;
+        private static final int SETS = 1 << EACH, UNKNOWN = -2;
+        // all that a day has costs less than FAR, all that can be far less than UNTRIED
+        private static final int FAR = 1000000, UNTRIED = 1000000000;
         private static final int PLACES = ENDS * BRIDGES * SETS;
 
         private final Day day;
@@ -1216,7 +1218,7 @@ public final class OneAlwaysUp {
         /** Ahead of minute 0 nothing was up: was is NONE there, and place 0 its one place. */
         private void settle(int s, int was, int w) {
             int here = place(s, was, w);
-            value[here] = Integer.MAX_VALUE;
+            value[here] = UNTRIED;
             for (int b = 0; b < BRIDGES; b++) {
                 if (b != was) {
                     int change = isBridge(was) ? changeCost[(s * BRIDGES + was) * BRIDGES + b] : 0;
