@@ -1,10 +1,5 @@
 /** For each promise of the document ordinary calls, the edges that it names, and wrong numbers. */
-public final class Promises {
-    private static final String FIRST = "ship waited * price ; cart waited * price ; change 1 ;";
-    private static int promise = 0;
-    private static int calls = 0;
-    private static int wrong = 0;
-
+public final class Promises extends Due {
     public static void main(String[] args) {
         newObject();
         come();
@@ -41,79 +36,11 @@ public final class Promises {
         copy();
         comes();
         taken();
-        System.out.println(wrong == 0 ? calls + " answers are as due" : wrong + " answers are not as due");
-        if (wrong != 0) {
-            System.exit(1);
-        }
-    }
-
-    private static void due(String call, long got, long want) {
-        calls++;
-        if (got != want) {
-            wrong++;
-            System.out.println("promise " + promise + ": " + call + " answered " + got + ", due is " + want);
-        }
-    }
-
-    private static int read(OneAlwaysUp x, String text) {
-        for (int i = 0; i < text.length(); i++) {
-            x.feed(text.charAt(i));
-        }
-        return x.text();
-    }
-
-    /** A new object whose rule is a text. */
-    private static OneAlwaysUp ruled(String text) {
-        OneAlwaysUp x = new OneAlwaysUp();
-        int number = read(x, text);
-        due("text() of " + text, number, 1);
-        x.force(number);
-        return x;
-    }
-
-    private static void lay(OneAlwaysUp x, String row) {
-        for (int m = 0; m < row.length(); m++) {
-            x.up(m, row.charAt(m) - '0');
-        }
-    }
-
-    private static String leastRow(OneAlwaysUp x) {
-        StringBuilder row = new StringBuilder();
-        for (int m = 0; m < 24; m++) {
-            row.append(x.least(m + 2));
-        }
-        return row.toString();
-    }
-
-    private static String planRow(OneAlwaysUp x) {
-        StringBuilder row = new StringBuilder();
-        for (int m = 0; m < 24; m++) {
-            row.append(x.at(m));
-        }
-        return row.toString();
-    }
-
-    private static String runRow(OneAlwaysUp x, int master) {
-        StringBuilder row = new StringBuilder();
-        for (int m = 0; m < 24; m++) {
-            row.append(x.run(master, m));
-        }
-        return row.toString();
-    }
-
-    private static void dueRow(String what, String got, String want) {
-        due(what + ": " + got + " for " + want, got.equals(want) ? 1 : 0, 1);
-    }
-
-    private static void tell(OneAlwaysUp x, int sheet, int sort, int... row) {
-        x.sheet(sheet, sort, row.length);
-        for (int i = 0; i < row.length; i++) {
-            x.cell(sheet, i, row[i]);
-        }
+        end();
     }
 
     private static void newObject() {
-        promise = 1;
+        by(1, "");
         OneAlwaysUp x = new OneAlwaysUp();
         int[] counts = {0, 0, 0, 1, 3, 1, 0, 0};
         for (int what = 0; what < 8; what++) {
@@ -131,7 +58,7 @@ public final class Promises {
     }
 
     private static void come() {
-        promise = 2;
+        by(2, "");
         OneAlwaysUp x = new OneAlwaysUp();
         due("come(0, 0, 0)", x.come(0, 0, 0), 0);
         due("come(0, 223, 9)", x.come(0, 223, 9), 1);
@@ -156,7 +83,7 @@ public final class Promises {
     }
 
     private static void set() {
-        promise = 3;
+        by(3, "");
         OneAlwaysUp x = new OneAlwaysUp();
         x.come(0, 102, 5);
         x.come(1, 203, 6);
@@ -179,7 +106,7 @@ public final class Promises {
     }
 
     private static void law() {
-        promise = 4;
+        by(4, "");
         OneAlwaysUp x = new OneAlwaysUp();
         due("law(0, 0, 4)", x.law(0, 0, 4), 1);
         due("law(0, 0, 1)", x.law(0, 0, 1), 4);
@@ -202,7 +129,7 @@ public final class Promises {
     }
 
     private static void told() {
-        promise = 5;
+        by(5, "");
         OneAlwaysUp x = new OneAlwaysUp();
         x.come(0, 105, 2);
         x.come(1, 4, 3);
@@ -230,7 +157,7 @@ public final class Promises {
     }
 
     private static void master() {
-        promise = 6;
+        by(6, "");
         OneAlwaysUp x = new OneAlwaysUp();
         due("master(-1, 0)", x.master(-1, 0), -2);
         due("master(6, 0)", x.master(6, 0), -2);
@@ -247,7 +174,7 @@ public final class Promises {
     }
 
     private static void feed() {
-        promise = 7;
+        by(7, "");
         OneAlwaysUp x = new OneAlwaysUp();
         due("feed(-1)", x.feed(-1), -2);
         due("feed(256)", x.feed(256), -2);
@@ -264,7 +191,7 @@ public final class Promises {
     }
 
     private static void text() {
-        promise = 8;
+        by(8, "");
         OneAlwaysUp x = new OneAlwaysUp();
         due("an empty tape", x.text(), -100);
         due(FIRST, read(x, FIRST), 1);
@@ -297,7 +224,7 @@ public final class Promises {
     }
 
     private static void faults() {
-        promise = 8;
+        by(8, "");
         fault("   ", 3);
         fault("ship", 4);
         fault("ship ", 5);
@@ -363,7 +290,7 @@ public final class Promises {
     }
 
     private static void worth() {
-        promise = 8;
+        by(8, "");
         worth("waited", 19);
         worth("price", 7);
         worth("minute", 24);
@@ -411,7 +338,7 @@ public final class Promises {
     }
 
     private static void force() {
-        promise = 9;
+        by(9, "");
         OneAlwaysUp x = new OneAlwaysUp();
         x.come(0, 120, 3);
         due("force(1)", x.force(1), -2);
@@ -428,7 +355,7 @@ public final class Promises {
     }
 
     private static void upAndAt() {
-        promise = 10;
+        by(10, "");
         OneAlwaysUp x = new OneAlwaysUp();
         due("up(0, 2)", x.up(0, 2), 0);
         due("up(0, 1)", x.up(0, 1), 2);
@@ -437,7 +364,7 @@ public final class Promises {
         due("up(24, 0)", x.up(24, 0), -2);
         due("up(0, -1)", x.up(0, -1), -2);
         due("up(0, 3)", x.up(0, 3), -2);
-        promise = 11;
+        by(11, "");
         due("at(0)", x.at(0), 1);
         due("at(1)", x.at(1), 0);
         due("at(23)", x.at(23), 2);
@@ -446,7 +373,7 @@ public final class Promises {
     }
 
     private static void plan() {
-        promise = 12;
+        by(12, "");
         OneAlwaysUp x = new OneAlwaysUp();
         x.come(0, 103, 2);
         x.come(0, 200, 1);
@@ -477,7 +404,7 @@ public final class Promises {
     }
 
     private static void least() {
-        promise = 13;
+        by(13, "");
         OneAlwaysUp x = new OneAlwaysUp();
         due("least(-1)", x.least(-1), -2);
         due("least(26)", x.least(26), -2);
@@ -514,7 +441,7 @@ public final class Promises {
     }
 
     private static void leastByTexts() {
-        promise = 13;
+        by(13, "");
         OneAlwaysUp x = ruled("ship 0 ; cart 0 ; change 0 ;");
         x.come(0, 110, 9);
         x.come(1, 0, 9);
@@ -547,7 +474,7 @@ public final class Promises {
     }
 
     private static void lay() {
-        promise = 14;
+        by(14, "");
         OneAlwaysUp x = new OneAlwaysUp();
         x.come(0, 0, 9);
         x.come(0, 110, 9);
@@ -562,7 +489,7 @@ public final class Promises {
     }
 
     private static void fewest() {
-        promise = 15;
+        by(15, "");
         OneAlwaysUp x = new OneAlwaysUp();
         due("fewest()", x.fewest(), 0);
         x.come(0, 0, 0);
@@ -598,7 +525,7 @@ public final class Promises {
     }
 
     private static void run() {
-        promise = 16;
+        by(16, "");
         OneAlwaysUp x = new OneAlwaysUp();
         due("run(0, 0)", x.run(0, 0), -2);
         x.master(0, 0);
@@ -667,7 +594,7 @@ public final class Promises {
     }
 
     private static void follow() {
-        promise = 17;
+        by(17, "");
         OneAlwaysUp x = new OneAlwaysUp();
         due("follow(0)", x.follow(0), -2);
         x.master(0, 5);
@@ -684,7 +611,7 @@ public final class Promises {
     }
 
     private static void way() {
-        promise = 18;
+        by(18, "");
         OneAlwaysUp x = new OneAlwaysUp();
         due("way(0, 0)", x.way(0, 0), -2);
         x.come(1, 0, 0);
@@ -735,7 +662,7 @@ public final class Promises {
     }
 
     private static void fourth() {
-        promise = 19;
+        by(19, "");
         OneAlwaysUp x = new OneAlwaysUp();
         x.come(1, 2, 3);
         x.come(1, 4, 1);
@@ -755,7 +682,7 @@ public final class Promises {
     }
 
     private static void late() {
-        promise = 20;
+        by(20, "");
         OneAlwaysUp x = new OneAlwaysUp();
         x.come(0, 0, 0);
         x.come(0, 100, 0);
@@ -779,7 +706,7 @@ public final class Promises {
     }
 
     private static void blame() {
-        promise = 21;
+        by(21, "");
         OneAlwaysUp x = new OneAlwaysUp();
         due("blame(0)", x.blame(0), -1);
         due("blame(2)", x.blame(2), -1);
@@ -826,7 +753,7 @@ public final class Promises {
     }
 
     private static void judge() {
-        promise = 22;
+        by(22, "");
         OneAlwaysUp x = new OneAlwaysUp();
         due("judge(-1)", x.judge(-1), -2);
         due("judge(4)", x.judge(4), -2);
@@ -862,7 +789,7 @@ public final class Promises {
     }
 
     private static void who() {
-        promise = 23;
+        by(23, "");
         OneAlwaysUp x = new OneAlwaysUp();
         due("who(-1)", x.who(-1), -2);
         due("who(4)", x.who(4), -2);
@@ -890,7 +817,7 @@ public final class Promises {
     }
 
     private static void drawn() {
-        promise = 24;
+        by(24, "");
         OneAlwaysUp x = new OneAlwaysUp();
         // 12345 >>> 8 is 48: the bridge of minute 0 is 0 with seed 0
         int z = 0;
@@ -912,7 +839,7 @@ public final class Promises {
     }
 
     private static void chance() {
-        promise = 25;
+        by(25, "");
         OneAlwaysUp x = new OneAlwaysUp();
         due("chance(0, 0, 0)", x.chance(0, 0, 0), OneAlwaysUp.NO);
         due("chance(0, 21, 0)", x.chance(0, 21, 0), OneAlwaysUp.NO);
@@ -945,7 +872,7 @@ public final class Promises {
     }
 
     private static void image() {
-        promise = 26;
+        by(26, "");
         OneAlwaysUp x = new OneAlwaysUp();
         due("image()", x.image(), 0);
         x.come(0, 0, 0);
@@ -961,7 +888,7 @@ public final class Promises {
     }
 
     private static void back() {
-        promise = 27;
+        by(27, "");
         OneAlwaysUp x = new OneAlwaysUp();
         due("back()", x.back(), -3);
         read(x, "ship 1 ; cart 2 ; change 3 ;");
@@ -1017,7 +944,7 @@ public final class Promises {
     }
 
     private static void count() {
-        promise = 28;
+        by(28, "");
         OneAlwaysUp x = new OneAlwaysUp();
         x.come(0, 0, 0);
         x.come(0, 0, 0);
@@ -1041,7 +968,7 @@ public final class Promises {
     }
 
     private static void sheet() {
-        promise = 29;
+        by(29, "");
         OneAlwaysUp x = new OneAlwaysUp();
         due("sheet(-1, 0, 1)", x.sheet(-1, 0, 1), -2);
         due("sheet(4, 0, 1)", x.sheet(4, 0, 1), -2);
@@ -1072,7 +999,7 @@ public final class Promises {
     }
 
     private static void cell() {
-        promise = 30;
+        by(30, "");
         OneAlwaysUp x = new OneAlwaysUp();
         due("cell(-1, 0, 0)", x.cell(-1, 0, 0), -2);
         due("cell(4, 0, 0)", x.cell(4, 0, 0), -2);
@@ -1087,7 +1014,7 @@ public final class Promises {
     }
 
     private static void copy() {
-        promise = 31;
+        by(31, "");
         OneAlwaysUp x = new OneAlwaysUp();
         due("copy(-1, 0, 0, 0, 0)", x.copy(-1, 0, 0, 0, 0), -2);
         due("copy(0, 0, 4, 0, 0)", x.copy(0, 0, 4, 0, 0), -2);
@@ -1117,7 +1044,7 @@ public final class Promises {
     }
 
     private static void comes() {
-        promise = 32;
+        by(32, "");
         OneAlwaysUp x = new OneAlwaysUp();
         due("comes(-1, 0, 0, 0)", x.comes(-1, 0, 0, 0), -2);
         due("comes(4, 0, 0, 0)", x.comes(4, 0, 0, 0), -2);
@@ -1151,7 +1078,7 @@ public final class Promises {
     }
 
     private static void taken() {
-        promise = 33;
+        by(33, "");
         int[] under = {1, 3, 5, 11, 21, 35};
         for (int kind = 0; kind < 6; kind++) {
             OneAlwaysUp x = new OneAlwaysUp();
