@@ -17,6 +17,7 @@ public final class EdgesOfPlan extends Due {
         leastFirstRow();
         leastHolds();
         leastOfManyOnes();
+        leastOfThoseInTime();
         leastFollowsChanges();
         lay();
         fewest();
@@ -266,6 +267,21 @@ public final class EdgesOfPlan extends Due {
         }
         due("all in 23: the ships go, or the carts", x.least(0), 36);
         dueRow("the carts", leastRow(x), ALL_DAY[0]);
+    }
+
+    private static void leastOfThoseInTime() {
+        by(13, "who comes in the MINUTE of a change is counted once");
+        OneAlwaysUp x = ruled("ship 10+waited;cart 20+waited;change 1;");
+        x.come(0, 0, 0);
+        x.come(0, 105, 0);
+        due("least(0)", x.least(0), 21);
+        dueRow("1 from 5 on", leastRow(x), row(0, 5, 1));
+        x.come(1, 5, 0);
+        due("a cart at 0 in 5", x.least(0), 41);
+        dueRow("1 from 5 on", leastRow(x), row(0, 5, 1));
+        x.come(1, 105, 0);
+        due("a cart at 1 in 5 waits, or the ship does", x.least(0), 21 + 20 + 22);
+        dueRow("the ship, till 6", leastRow(x), row(0, 6, 1));
     }
 
     private static void leastFollowsChanges() {

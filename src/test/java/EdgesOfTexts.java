@@ -13,6 +13,7 @@ public final class EdgesOfTexts extends Due {
         feedFull();
         textEmpty();
         textEmptiesTheTape();
+        textBehindFaults();
         textFull();
         textThatFillsTheTape();
         eachByte();
@@ -112,7 +113,26 @@ public final class EdgesOfTexts extends Due {
         due("another text, of which nothing of the fault is left", read(x, " 1;"), -101);
         due("feed(32)", x.feed(32), 1);
         due("text()", x.text(), -101);
+        due("an empty one, of which no blank is left", x.text(), -100);
+        due("a NUMBER that is too long", read(x, "ship 12345678"), -105);
+        due("one that is not, of which no digit is left", read(x, "ship 1234"), -109);
         due("the number of the next one", read(x, "ship 2" + REST), 2);
+    }
+
+    private static void textBehindFaults() {
+        by(8, "nothing of a TEXT with a FAULT is left");
+        OneAlwaysUp x = new OneAlwaysUp();
+        for (int n = 0; n < 4; n++) {
+            due("a long one", read(x, "ship 9" + "+9".repeat(40)), -186);
+        }
+        due("a text", read(x, "ship 3;cart 4;change 5;"), 1);
+        x.force(1);
+        x.come(0, 0, 0);
+        x.come(1, 0, 0);
+        x.up(23, 1);
+        due("told(0, 0, 5)", x.told(0, 0, 5), 3);
+        due("told(1, 0, 5)", x.told(1, 0, 5), 4);
+        due("plan(0)", x.plan(0), 3 + 4 + 5);
     }
 
     private static void textFull() {
@@ -146,6 +166,9 @@ public final class EdgesOfTexts extends Due {
         due("68 and 2", x.told(0, 0, 5), 70);
         fault(text.substring(0, 159) + ")", 159);
         fault(text.substring(0, 159) + " ", 160);
+        by(8, "a WORD that ends with THE TAPE");
+        fault("ship " + "1+".repeat(74) + " waited", 160);
+        fault("ship " + "1+".repeat(74) + " waites", 154);
     }
 
     private static void eachByte() {
@@ -204,7 +227,26 @@ public final class EdgesOfTexts extends Due {
             faultOfE("1 + " + key, 4);
         }
         faultOfE("not", 3);
-        fault("waited 1" + REST, 0);
+        String[] all = {"ship", "cart", "change", "or", "and", "not", "waited", "price", "minute", "bridge", "was", "many"};
+        for (String word : all) {
+            if (!word.equals("or") && !word.equals("and")) {
+                faultOfE("1 " + word + " 1", 2);
+            }
+            String[] keys = {"ship", "cart", "change"};
+            int place = 0;
+            for (int k = 0; k < 3; k++) {
+                String key = keys[k];
+                keys[k] = word;
+                String text = keys[0] + " 1;" + keys[1] + " 1;" + keys[2] + " 1;";
+                if (word.equals(key)) {
+                    reads(text);
+                } else {
+                    fault(text, place);
+                }
+                keys[k] = key;
+                place += key.length() + 3;
+            }
+        }
         fault("ship 1;cart 1;ship 1;", 14);
         fault("ship 1;ship 1;change 1;", 7);
         fault("change 1;cart 1;ship 1;", 0);
@@ -508,6 +550,19 @@ public final class EdgesOfTexts extends Due {
                 }
             }
         }
+        by(8, "was 0, whatever was in a change");
+        OneAlwaysUp y = ruled("ship was*50;cart was*50;change was*10;");
+        y.come(0, 205, 1);
+        y.come(1, 5, 1);
+        lay(y, "111111111111000000000000");
+        due("plan(0)", y.plan(0), 10);
+        y.up(20, 2);
+        due("of a ship", y.told(0, 0, 5), 0);
+        lay(y, "000000000222222222222222");
+        due("plan(0)", y.plan(0), 0);
+        lay(y, "000000001000000000000002");
+        due("plan(0)", y.plan(0), 10);
+        due("of a cart", y.told(1, 0, 5), 0);
         by(8, "many: how many SHIPS and CARTS there are");
         OneAlwaysUp x = ruled("ship many;cart many;change 50+many;");
         x.up(0, 1);
@@ -538,6 +593,18 @@ public final class EdgesOfTexts extends Due {
                 lay(x, ("" + was).repeat(12) + ("" + is).repeat(12));
                 due("from " + was + " to " + is, x.plan(0), was == is ? 0 : 10 * is + was + 1);
             }
+        }
+        by(8, "each change of a plan by its own minute, bridge and was");
+        x = ruled("ship 0;cart 0;change 3*minute+9*bridge-4*was+8;");
+        for (String row : new String[] {"012012012012012012012012", "021021021021021021021021", "010212010212010212010212", "002211002211002211002211"}) {
+            lay(x, row);
+            int sum = 0;
+            for (int m = 1; m < 24; m++) {
+                int is = row.charAt(m) - '0';
+                int was = row.charAt(m - 1) - '0';
+                sum += is == was ? 0 : 3 * m + 9 * is - 4 * was + 8;
+            }
+            due("plan(0) of " + row, x.plan(0), sum);
         }
     }
 

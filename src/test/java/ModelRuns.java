@@ -127,7 +127,8 @@ public final class ModelRuns {
         }
 
         int go() {
-            int most = 100 + upTo(412);
+            // a step may go some fifty calls beyond, and behind the 512th all answers are free
+            int most = 100 + upTo(360);
             while (calls < most && wrong == start) {
                 step();
             }
