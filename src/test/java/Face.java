@@ -1,3 +1,4 @@
+import java.lang.reflect.Array;
 import java.lang.reflect.Constructor;
 import java.lang.reflect.Field;
 import java.lang.reflect.Member;
@@ -6,7 +7,10 @@ import java.lang.reflect.Modifier;
 import java.nio.file.Files;
 import java.nio.file.Path;
 import java.util.ArrayList;
+import java.util.Collections;
+import java.util.IdentityHashMap;
 import java.util.List;
+import java.util.Set;
 import java.util.TreeSet;
 import java.util.regex.Matcher;
 import java.util.regex.Pattern;
@@ -29,6 +33,7 @@ public final class Face {
         classes();
         words();
         methods();
+        room();
         System.out.println(wrong == 0 ? "the face is as due" : wrong + " things are not as due");
         if (wrong != 0) {
             System.exit(1);
@@ -140,5 +145,34 @@ public final class Face {
                 begun = 0;
             }
         }
+    }
+
+    /** The room of a run has place for as many new objects as an object has calls. */
+    private static void room() throws Exception {
+        Set<Object> things = Collections.newSetFromMap(new IdentityHashMap<>());
+        int parts = partsOf(new OneAlwaysUp(), things);
+        due(things.size() <= 600000 / 512, "objects and arrays of one: " + things.size());
+        due(parts <= 7300000 / 512, "fields and elements of one: " + parts);
+    }
+
+    private static int partsOf(Object thing, Set<Object> seen) throws Exception {
+        if (thing == null || thing instanceof String || !seen.add(thing)) {
+            return 0;
+        }
+        int parts = 0;
+        if (thing.getClass().isArray()) {
+            parts = Array.getLength(thing);
+            for (int i = 0; i < Array.getLength(thing) && thing instanceof Object[]; i++) {
+                parts += partsOf(Array.get(thing, i), seen);
+            }
+            return parts;
+        }
+        for (Field f : thing.getClass().getDeclaredFields()) {
+            if (!Modifier.isStatic(f.getModifiers())) {
+                f.setAccessible(true);
+                parts += 1 + (f.getType().isPrimitive() ? 0 : partsOf(f.get(thing), seen));
+            }
+        }
+        return parts;
     }
 }
